@@ -597,11 +597,13 @@ public final class CrankTheatre {
         }
 
         void copy(Wheels from) {
-            System.arraycopy(from.teeth, 0, teeth, 0, WHEELS);
-            System.arraycopy(from.tops, 0, tops, 0, WHEELS);
-            System.arraycopy(from.locked, 0, locked, 0, WHEELS);
-            System.arraycopy(from.cranked, 0, cranked, 0, WHEELS);
-            System.arraycopy(from.handed, 0, handed, 0, WHEELS);
+            for (int wheel = 0; wheel < WHEELS; wheel++) {
+                teeth[wheel] = from.teeth[wheel];
+                tops[wheel] = from.tops[wheel];
+                locked[wheel] = from.locked[wheel];
+                cranked[wheel] = from.cranked[wheel];
+                handed[wheel] = from.handed[wheel];
+            }
             System.arraycopy(from.heights, 0, heights, 0, WHEELS * MOST_TEETH);
         }
 
@@ -731,7 +733,9 @@ public final class CrankTheatre {
 
         void copy(State from) {
             wheels.copy(from.wheels);
-            System.arraycopy(from.stops, 0, stops, 0, PLACES);
+            for (int place = 0; place < PLACES; place++) {
+                stops[place] = from.stops[place];
+            }
             System.arraycopy(from.scenes, 0, scenes, 0, MOST_SCENES * WHEELS);
             sceneCount = from.sceneCount;
             crank = from.crank;

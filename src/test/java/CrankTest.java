@@ -175,6 +175,11 @@ public final class CrankTest {
         x.file(2, 0, 5);
         x.turn(5);
         Check.equal("out: curtains, moon", x.count(8), 3);
+        x.turn(2);
+        Check.equal("out: curtains, moon at 5", x.count(8), 3);
+        x.turn(1);
+        Check.equal("out: curtains, trap, moon at 4", x.count(8), 3);
+        x.turn(-3);
         x.remember();
         x.remember();
         Check.equal("scenes", x.count(7), 2);
@@ -182,8 +187,8 @@ public final class CrankTest {
         Check.equal("setting", x.count(9), 7);
         Check.equal("saved at most", x.count(12), 6);
         Check.work(x, "-2l");
-        Check.equal("forward", x.count(3), 5);
-        Check.equal("back", x.count(4), 2);
+        Check.equal("forward", x.count(3), 8);
+        Check.equal("back", x.count(4), 5);
         Check.equal("lifted", x.count(11), 1);
         Check.equal("all done", x.count(10), 0);
     }

@@ -146,6 +146,19 @@ public final class ForesightTest {
         x.clutch(3);
         x.file(3, 0, 9);
         Check.equal("only locked ones: the moon", x.frees(0), 4);
+        freesLockedOnesAlone();
+    }
+
+    /** A loose curtain would be out behind the step if it was locked; that is not what is asked. */
+    private static void freesLockedOnesAlone() {
+        CrankTheatre x = new CrankTheatre();
+        x.file(0, 0, 0);
+        x.file(2, 1, 9);
+        x.clutch(0);
+        Check.equal("jammed", x.why(0), 1);
+        Check.equal("the trap", x.frees(0), 2);
+        x.clutch(0);
+        Check.equal("free with the curtain locked", x.why(0), 0);
     }
 
     private static void freesNot() {

@@ -7,6 +7,7 @@ public final class TextTest {
         append();
         clearBuffer();
         firstError();
+        errorsAgain();
         errorsBehindEachKindOfPart();
         incompleteWork();
         work();
@@ -96,6 +97,25 @@ public final class TextTest {
         error("!!", 0);
     }
 
+    /** The reader begins anew each time, wherever it stood before. */
+    private static void errorsAgain() {
+        CrankTheatre x = new CrankTheatre();
+        Check.type(x, "((l)2(+");
+        Check.equal("open brackets", x.firstError(), 7);
+        Check.equal("again", x.firstError(), 7);
+        Check.type(x, "x");
+        Check.equal("an error", x.firstError(), 7);
+        Check.equal("the same error", x.firstError(), 7);
+        x.clearBuffer();
+        Check.type(x, "l)2");
+        Check.equal("no bracket is open", x.firstError(), 1);
+        x.clearBuffer();
+        Check.equal("none", x.firstError(), 0);
+        Check.refuses("empty work", x, ARGUMENT, x::work);
+        Check.equal("work behind it", Check.work(x, "(+1)3"), 3);
+        Check.equal("and again", Check.work(x, "(+1)3"), 3);
+    }
+
     private static void errorsBehindEachKindOfPart() {
         for (String part : new String[] {"+7", "-10", "+6", "k3", "l", "(l)9"}) {
             error(part + "x", part.length());
@@ -161,6 +181,9 @@ public final class TextTest {
         Check.equal("caught", Check.work(x, "+5k0l"), 2);
         Check.equal("by 3", x.count(10), 3);
         Check.equal("no part behind it", x.wheel(0, 4) * 10 + x.count(11), 10);
+        Check.equal("caught in brackets", Check.work(x, "(((+5)2)2)2"), 0);
+        Check.equal("brackets begin anew", Check.work(x, "(l+1)8"), 8);
+        Check.equal("and back", Check.work(x, "(-4)2"), 8);
         Check.equal("lifted in a text", Check.work(x, "l+5-5l"), 10);
         Check.equal("by 0", x.count(10), 0);
         Check.equal("lifted still", x.count(11), 1);

@@ -57,7 +57,27 @@ public final class WheelTest {
         x.clutch(4);
         Check.refuses("moon to 5", x, STATE, () -> x.hand(4, 5));
         Check.equal("moon to 4", x.hand(4, 4), 4);
+        Check.refuses("from 4 to 5", x, STATE, () -> x.hand(4, 1));
+        Check.equal("from 4 to 4", x.hand(4, 4), 8);
         Check.refuses("a locked wheel", x, STATE, () -> x.hand(0, 1));
+        handBehindATurn();
+    }
+
+    /** The picture that counts is that behind the latest call, also if no look came between. */
+    private static void handBehindATurn() {
+        CrankTheatre x = new CrankTheatre();
+        x.file(2, 1, 5);
+        x.file(1, 2, 0);
+        x.turn(1);
+        x.clutch(1);
+        boolean refused = false;
+        try {
+            x.hand(1, 1);
+        } catch (IllegalStateException e) {
+            refused = true;
+        }
+        Check.equal("refused", refused ? 1 : 0, 1);
+        Check.equal("top", x.wheel(1, 1), 1);
     }
 
     private static void file() {
@@ -69,6 +89,12 @@ public final class WheelTest {
         Check.refuses("curtain in", x, STATE, () -> x.file(0, 0, 4));
         Check.equal("curtain at 5", x.file(0, 0, 5), 9);
         Check.equal("not at the top", x.file(0, 1, 4), 9);
+        Check.equal("the other trap, too", x.file(3, 0, 5), 0);
+        Check.refuses("the other curtain in", x, STATE, () -> x.file(1, 0, 4));
+        Check.equal("the first trap in", x.file(2, 0, 4), 5);
+        Check.refuses("the other trap is out still", x, STATE, () -> x.file(1, 0, 4));
+        Check.equal("in again", x.file(3, 0, 0), 5);
+        x.file(2, 0, 5);
         x.file(4, 0, 5);
         Check.refuses("both traps under a high moon", x, STATE, () -> x.file(3, 0, 5));
         Check.equal("trap at 4", x.file(3, 0, 4), 0);
@@ -130,6 +156,14 @@ public final class WheelTest {
         x.change(1, 3);
         Check.equal("no teeth beyond", x.wheel(1, 6), 3);
         Check.equal("height", x.wheel(1, 3), 9);
+        Check.equal("height of the moon at its tooth 11", heightOfMoonAt(-1), 1);
+        Check.equal("height of the moon at its tooth 7", heightOfMoonAt(7), 5);
+    }
+
+    private static int heightOfMoonAt(int steps) {
+        CrankTheatre x = new CrankTheatre();
+        x.turn(steps);
+        return x.wheel(4, 3);
     }
 
     private static int outOfMoonAt(int steps) {
