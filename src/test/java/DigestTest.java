@@ -74,21 +74,28 @@ public final class DigestTest {
 
     /** Shares and means of many sizes, so that each bit of theirs is told. */
     private static void farShares() {
-        CrankTheatre x = new CrankTheatre();
-        x.change(2, 11);
-        x.change(3, 7);
-        for (int tooth = 1; tooth < 11; tooth++) {
-            x.file(2, tooth, 9);
-            x.file(0, tooth % 3 + 1, tooth % 5);
-            x.file(4, 0, tooth % 10);
-            whole("shares " + tooth, x, new boolean[60], false, "");
+        for (int last = 1; last < 11; last++) {
+            whole("shares " + last, filed(last), new boolean[60], false, "");
         }
+        CrankTheatre x = filed(10);
         x.file(0, 0, 0);
         x.file(1, 0, 0);
         x.file(4, 0, 0);
         whole("no height", x, new boolean[60], false, "");
         x.file(4, 0, 1);
         whole("a height of 1 in 5", x, new boolean[60], false, "");
+    }
+
+    private static CrankTheatre filed(int last) {
+        CrankTheatre x = new CrankTheatre();
+        x.change(2, 11);
+        x.change(3, 7);
+        for (int tooth = 1; tooth <= last; tooth++) {
+            x.file(2, tooth, 9);
+            x.file(0, tooth % 3 + 1, tooth % 5);
+            x.file(4, 0, tooth % 10);
+        }
+        return x;
     }
 
     private static void nothingElseCounts() {

@@ -5,9 +5,12 @@ import java.util.regex.Pattern;
 
 /** Long runs of calls, each answer set beside that of a plain model which was written apart from the class. */
 public final class ModelTest {
-    private static final int RUNS = 150;
-    private static final int CALLS = 500;
+    private static final int RUNS = 600;
+    // An object is used for 512 calls; a step of a run makes below 80.
+    private static final int CALLS = 430;
+    private static final int LONGEST_TEXT = 64;
     private static long seed = 1;
+    private static int calls = 0;
 
     public static void main(String[] args) {
         for (int run = 0; run < RUNS; run++) {
@@ -35,11 +38,13 @@ public final class ModelTest {
     private static void play(int run) {
         CrankTheatre x = new CrankTheatre();
         Model m = new Model();
-        for (int call = 0; call < CALLS; call++) {
-            String what = "run " + run + ", call " + call + ": ";
+        calls = 0;
+        for (int step = 1; calls < CALLS; step++) {
+            String what = "run " + run + ", step " + step + ": ";
             step(what, x, m, run % 3 == 0);
-            if (call % 25 == 24) {
+            if (step % 25 == 0 || calls >= CALLS) {
                 Check.equal(what + "digest", x.digest(), m.digest());
+                calls++;
             }
         }
     }
@@ -101,6 +106,7 @@ public final class ModelTest {
         both(what + "frees " + back, () -> x.frees(back), () -> m.frees(back));
         int steps = near(-9999, 9999);
         both(what + "ahead " + steps + " " + wheel, () -> x.ahead(steps, wheel), () -> m.ahead(steps, wheel));
+        calls += 2;
         Check.equalShare(what + "allowedShare", x.allowedShare(), m.allowedShare());
         Check.equalShare(what + "meanHeight", x.meanHeight(), m.meanHeight());
     }
@@ -114,7 +120,7 @@ public final class ModelTest {
             int at = pick(text.length());
             text = text.substring(0, at) + "+-kl()0123456789x".charAt(pick(17)) + text.substring(at + pick(2));
         }
-        for (char sign : text.toCharArray()) {
+        for (char sign : text.substring(0, Math.min(text.length(), LONGEST_TEXT)).toCharArray()) {
             both(what + "append " + (int) sign, () -> x.append(sign), () -> m.append(sign));
         }
         both(what + "firstError of " + m.buffer, x::firstError, m::firstError);
@@ -139,6 +145,7 @@ public final class ModelTest {
     }
 
     private static void both(String what, IntSupplier call, IntSupplier model) {
+        calls++;
         String got = answer(call);
         String due = answer(model);
         if (!got.equals(due)) {

@@ -6,6 +6,14 @@ final class Check {
         long make();
     }
 
+    interface Maker {
+        CrankTheatre make();
+    }
+
+    interface Use {
+        long on(CrankTheatre theatre);
+    }
+
     private Check() {
     }
 
@@ -34,6 +42,43 @@ final class Check {
             tell(what + " threw " + thrown + ", due is " + kind);
         }
         equal("digest() behind " + what, theatre.digest(), before);
+    }
+
+    /** The call is refused, and behind it the theatre answers as a twin that was not asked. */
+    static void leavesNothing(String what, Maker maker, Class<? extends RuntimeException> kind, Use use) {
+        CrankTheatre asked = maker.make();
+        refuses(what, asked, kind, () -> use.on(asked));
+        sameAs(what, asked, maker.make());
+    }
+
+    /** The call is answered, and behind it the theatre answers as a twin that was not asked. */
+    static void onlyLooks(String what, Maker maker, Use use) {
+        CrankTheatre asked = maker.make();
+        use.on(asked);
+        sameAs(what, asked, maker.make());
+    }
+
+    /** All that can be told of the two is the same: their states, texts, saved states and snapshots. Uses them up. */
+    static void sameAs(String what, CrankTheatre x, CrankTheatre y) {
+        equal("digest() behind " + what, x.digest(), y.digest());
+        equal("firstError() behind " + what, x.firstError(), y.firstError());
+        for (int saved = Math.min(x.count(12), y.count(12)); saved > 0; saved--) {
+            x.undo();
+            y.undo();
+            equal("digest() behind " + what + " and undo() to " + (saved - 1), x.digest(), y.digest());
+        }
+        equal("goBack() behind " + what, answerOf(x::goBack), answerOf(y::goBack));
+        equal("digest() behind " + what + " and goBack()", x.digest(), y.digest());
+        equal("turn() behind " + what, x.turn(9), y.turn(9));
+        equal("digest() behind " + what + " and turn()", x.digest(), y.digest());
+    }
+
+    private static long answerOf(Call call) {
+        try {
+            return call.make();
+        } catch (IllegalStateException e) {
+            return Long.MIN_VALUE;
+        }
     }
 
     static void tell(String fault) {
