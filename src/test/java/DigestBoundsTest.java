@@ -1,6 +1,3 @@
-import java.util.ArrayList;
-import java.util.List;
-
 /** Promise 30, and "looks; nothing is changed" of promises 14 and 19 to 30: a method for each sentence. */
 public final class DigestBoundsTest {
     private static final int[] NEW_THEATRE = {
@@ -27,63 +24,12 @@ public final class DigestBoundsTest {
         Check.end();
     }
 
-    private static long mix(long hash, int... values) {
-        long mixed = hash;
-        for (int value : values) {
-            mixed = 31 * mixed + value;
-        }
-        return mixed;
-    }
-
-    private static long bits(long hash, double share, float mean) {
-        return 31 * (31 * hash + Double.doubleToLongBits(share)) + Float.floatToIntBits(mean);
-    }
-
     private static void digestOfANewTheatreByItsNumbers() {
-        long hash = mix(3847, NEW_THEATRE);
-        hash = mix(hash, new int[60]);
-        hash = mix(hash, NEW_THEATRE_WOULD_BE);
-        hash = bits(hash, 1.0, 3.6f);
-        Check.equal("digest of a new theatre", new CrankTheatre().digest(), mix(hash, 0, 0));
-    }
-
-    /** The digest, from the answers of the calls that it names; stops are told by the test. */
-    private static long due(CrankTheatre x, boolean[] stops, boolean kept, String buffer) {
-        List<Integer> values = new ArrayList<>();
-        for (int what = 0; what <= 12; what++) {
-            values.add(x.count(what));
-        }
-        for (int wheel = 0; wheel < 5; wheel++) {
-            for (int what = 0; what <= 6; what++) {
-                values.add(x.wheel(wheel, what));
-            }
-            for (int tooth = 0; tooth < x.wheel(wheel, 0); tooth++) {
-                values.add(x.tooth(wheel, tooth));
-            }
-        }
-        for (boolean stop : stops) {
-            values.add(stop ? 1 : 0);
-        }
-        for (int scene = 0; scene < x.count(7); scene++) {
-            for (int what = 0; what <= 7; what++) {
-                values.add(x.scene(scene, what));
-            }
-        }
-        values.addAll(List.of(x.why(0), x.why(1), x.round(0), x.round(1), x.jamsIn(0), x.jamsIn(1)));
-        values.addAll(List.of(x.frees(0), x.frees(1)));
-        for (int wheel = 0; wheel < 5; wheel++) {
-            values.add(x.ahead(7, wheel));
-        }
-        long hash = 3847;
-        for (int value : values) {
-            hash = mix(hash, value);
-        }
-        hash = mix(bits(hash, x.allowedShare(), x.meanHeight()), kept ? 1 : 0, buffer.length());
-        return mix(hash, buffer.chars().toArray());
-    }
-
-    private static void whole(String what, CrankTheatre x, boolean[] stops, boolean kept, String buffer) {
-        Check.equal("digest, " + what, x.digest(), due(x, stops, kept, buffer));
+        long hash = Digests.mix(3847, NEW_THEATRE);
+        hash = Digests.mix(hash, new int[60]);
+        hash = Digests.mix(hash, NEW_THEATRE_WOULD_BE);
+        hash = Digests.bits(hash, 1.0, 3.6f);
+        Check.equal("digest of a new theatre", new CrankTheatre().digest(), Digests.mix(hash, 0, 0));
     }
 
     private static void digestOfNoSceneToSix() {
@@ -93,10 +39,10 @@ public final class DigestBoundsTest {
                 x.remember();
                 x.turn(1);
             }
-            whole(scenes + " scenes", x, new boolean[60], false, "");
+            Digests.check(scenes + " scenes", x, new boolean[60], false, "");
             if (scenes > 2) {
                 x.forget(2);
-                whole("one is forgotten", x, new boolean[60], false, "");
+                Digests.check("one is forgotten", x, new boolean[60], false, "");
             }
         }
     }
@@ -109,11 +55,11 @@ public final class DigestBoundsTest {
                 x.stop(59 - stop);
                 due[59 - stop] = true;
             }
-            whole(stops + " stops", x, due, false, "");
+            Digests.check(stops + " stops", x, due, false, "");
             if (stops > 0) {
                 x.stop(59);
                 due[59] = false;
-                whole("the last place is none", x, due, false, "");
+                Digests.check("the last place is none", x, due, false, "");
             }
         }
     }
@@ -126,17 +72,17 @@ public final class DigestBoundsTest {
                 x.append(126 - at);
                 buffer.append((char) (126 - at));
             }
-            whole(length + " characters", x, new boolean[60], false, buffer.toString());
+            Digests.check(length + " characters", x, new boolean[60], false, buffer.toString());
             x.clearBuffer();
-            whole("cleared", x, new boolean[60], false, "");
+            Digests.check("cleared", x, new boolean[60], false, "");
         }
         CrankTheatre x = new CrankTheatre();
         x.append(33);
-        whole("the least code, alone", x, new boolean[60], false, "!");
+        Digests.check("the least code, alone", x, new boolean[60], false, "!");
         CrankTheatre y = new CrankTheatre();
         Check.type(y, "k1");
         y.work();
-        whole("worked off", y, new boolean[60], false, "");
+        Digests.check("worked off", y, new boolean[60], false, "");
     }
 
     private static void digestWithAndWithoutASnapshot() {
@@ -144,13 +90,13 @@ public final class DigestBoundsTest {
         x.turn(1);
         long before = x.digest();
         x.keep();
-        whole("a snapshot", x, new boolean[60], true, "");
+        Digests.check("a snapshot", x, new boolean[60], true, "");
         Check.equal("it tells by 31", x.digest() - before, 31);
         x.goBack();
-        whole("and gone back", x, new boolean[60], true, "");
+        Digests.check("and gone back", x, new boolean[60], true, "");
         x.undo();
         x.undo();
-        whole("and undone", x, new boolean[60], true, "");
+        Digests.check("and undone", x, new boolean[60], true, "");
     }
 
     /** Shares of many sizes: from 1 of 12 to all of each round of one wheel. */
@@ -168,7 +114,7 @@ public final class DigestBoundsTest {
                     x.file(4, tooth, 9);
                 }
                 Check.equalShare("share", x.allowedShare(), (double) (teeth - high) / teeth);
-                whole("share of " + teeth, x, new boolean[60], false, "");
+                Digests.check("share of " + teeth, x, new boolean[60], false, "");
             }
         }
     }
@@ -181,15 +127,15 @@ public final class DigestBoundsTest {
                 x.file(wheel, 0, Math.max(0, Math.min(9, sum - 9 * wheel)));
             }
             Check.equalShare("mean", x.meanHeight(), sum / 5f);
-            whole("mean of " + sum, x, new boolean[60], false, "");
+            Digests.check("mean of " + sum, x, new boolean[60], false, "");
         }
     }
 
     private static void digestOfNumbersBelowZero() {
         CrankTheatre x = Stage.at(-9999);
-        whole("at -9999", x, new boolean[60], false, "");
+        Digests.check("at -9999", x, new boolean[60], false, "");
         CrankTheatre y = Stage.at(9999);
-        whole("at 9999", y, new boolean[60], false, "");
+        Digests.check("at 9999", y, new boolean[60], false, "");
     }
 
     private static void looksOf(String what, Check.Maker maker) {

@@ -47,14 +47,6 @@ public final class ForesightBoundsTest {
         return x;
     }
 
-    private static CrankTheatre teeth(int... teeth) {
-        CrankTheatre x = new CrankTheatre();
-        for (int wheel = 0; wheel < 5; wheel++) {
-            x.change(wheel, teeth[wheel]);
-        }
-        return x;
-    }
-
     private static void roundWithoutLockedWheels() {
         CrankTheatre x = locked();
         rounds("none locked", x, 1);
@@ -96,13 +88,13 @@ public final class ForesightBoundsTest {
 
     private static void roundOfFiveWheels() {
         rounds("at first", new CrankTheatre(), 72);
-        rounds("least", teeth(2, 2, 2, 2, 2), 2);
-        rounds("greatest", teeth(5, 7, 8, 9, 11), 27720);
-        rounds("greatest in another order", teeth(11, 9, 8, 7, 5), 27720);
-        rounds("with more teeth, but less", teeth(12, 11, 10, 9, 8), 3960);
-        rounds("12 each", teeth(12, 12, 12, 12, 12), 12);
-        rounds("2 to 12", teeth(2, 3, 4, 6, 12), 12);
-        rounds("primes", teeth(2, 3, 5, 7, 11), 2310);
+        rounds("least", Stage.teeth(2, 2, 2, 2, 2), 2);
+        rounds("greatest", Stage.teeth(5, 7, 8, 9, 11), 27720);
+        rounds("greatest in another order", Stage.teeth(11, 9, 8, 7, 5), 27720);
+        rounds("with more teeth, but less", Stage.teeth(12, 11, 10, 9, 8), 3960);
+        rounds("12 each", Stage.teeth(12, 12, 12, 12, 12), 12);
+        rounds("2 to 12", Stage.teeth(2, 3, 4, 6, 12), 12);
+        rounds("primes", Stage.teeth(2, 3, 5, 7, 11), 2310);
     }
 
     private static void roundWhetherStepsCanBeMadeOrNot() {
@@ -153,7 +145,7 @@ public final class ForesightBoundsTest {
     }
 
     private static void jamsInTheLongestRound() {
-        CrankTheatre x = teeth(5, 7, 8, 9, 11);
+        CrankTheatre x = Stage.teeth(5, 7, 8, 9, 11);
         x.turn(1);
         x.set(0);
         for (int wheel = 0; wheel < 5; wheel++) {
@@ -168,7 +160,7 @@ public final class ForesightBoundsTest {
         // The tops are all at 1, and at 0 together one step back or 791 steps forward.
         Check.equal("one step back", x.jamsIn(1), 0);
         Check.equal("790 steps", x.jamsIn(0), 790);
-        CrankTheatre y = teeth(5, 7, 8, 9, 11);
+        CrankTheatre y = Stage.teeth(5, 7, 8, 9, 11);
         y.turn(1);
         for (int tooth = 0; tooth < 8; tooth++) {
             y.file(2, tooth, tooth == 0 ? 9 : 0);
@@ -189,7 +181,7 @@ public final class ForesightBoundsTest {
         Check.equal("without locked wheels", x.jamsIn(0), -1);
         Check.equal("back, too", x.jamsIn(1), -1);
         // The trap is out at even teeth and the curtain in at odd ones, of 2 teeth each: never both.
-        CrankTheatre y = teeth(2, 2, 2, 2, 2);
+        CrankTheatre y = Stage.teeth(2, 2, 2, 2, 2);
         y.file(2, 0, 9);
         y.file(0, 1, 0);
         Check.equal("never together", y.jamsIn(0), -1);
@@ -444,7 +436,7 @@ public final class ForesightBoundsTest {
     }
 
     private static void allowedShareOfTheLongestRound() {
-        CrankTheatre x = teeth(5, 7, 8, 9, 11);
+        CrankTheatre x = Stage.teeth(5, 7, 8, 9, 11);
         Check.equalShare("all of 27720", x.allowedShare(), 1.0);
         x.file(2, 1, 5);
         x.file(0, 1, 4);

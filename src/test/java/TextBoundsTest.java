@@ -325,7 +325,7 @@ public final class TextBoundsTest {
     }
 
     private static CrankTheatre jamsWithTheTrapLocked() {
-        CrankTheatre x = twoTeeth();
+        CrankTheatre x = Stage.teeth(2, 2, 2, 2, 2);
         x.file(0, 0, 0);
         x.file(0, 1, 0);
         x.file(2, 1, 9);
@@ -334,21 +334,13 @@ public final class TextBoundsTest {
     }
 
     private static CrankTheatre jamsWithTheMoonLocked() {
-        CrankTheatre x = twoTeeth();
+        CrankTheatre x = Stage.teeth(2, 2, 2, 2, 2);
         x.file(2, 0, 9);
         x.file(2, 1, 9);
         x.file(3, 0, 9);
         x.file(3, 1, 9);
         x.file(4, 1, 9);
         x.clutch(4);
-        return x;
-    }
-
-    private static CrankTheatre twoTeeth() {
-        CrankTheatre x = new CrankTheatre();
-        for (int wheel = 0; wheel < 5; wheel++) {
-            x.change(wheel, 2);
-        }
         return x;
     }
 

@@ -44,20 +44,11 @@ public final class WheelBoundsTest {
         return left && right && heights[4] > setting ? 2 : 0;
     }
 
-    /** Wheels of two teeth: the tooth 1 comes to the top both forward and back. */
-    private static CrankTheatre twoTeeth() {
-        CrankTheatre x = new CrankTheatre();
-        for (int wheel = 0; wheel < 5; wheel++) {
-            x.change(wheel, 2);
-        }
-        return x;
-    }
-
     private static void pictureIsAllowedOrNotForTheFirstReason() {
         int[] near = {0, 4, 5, 9};
         for (int heights = 0; heights < 256; heights++) {
             for (int moon = 0; moon <= 9; moon++) {
-                CrankTheatre x = twoTeeth();
+                CrankTheatre x = Stage.teeth(2, 2, 2, 2, 2);
                 int[] picture = {near[heights % 4], near[heights / 4 % 4], near[heights / 16 % 4], near[heights / 64], moon};
                 for (int wheel = 0; wheel < 5; wheel++) {
                     x.file(wheel, 1, picture[wheel]);

@@ -71,4 +71,13 @@ final class Stage {
         x.keep();
         return x;
     }
+
+    /** Wheels of so many teeth, each with the height that its top had at first. */
+    static CrankTheatre teeth(int... teeth) {
+        CrankTheatre x = new CrankTheatre();
+        for (int wheel = 0; wheel < 5; wheel++) {
+            x.change(wheel, teeth[wheel]);
+        }
+        return x;
+    }
 }
