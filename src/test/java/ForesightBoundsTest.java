@@ -386,6 +386,28 @@ public final class ForesightBoundsTest {
         z.file(2, 7, 9);
         z.file(0, 3, 0);
         Check.equal("jammed one ahead of the bound", z.frees(0), 0);
+        freesNoneBack();
+    }
+
+    private static void freesNoneBack() {
+        CrankTheatre x = new CrankTheatre();
+        x.file(3, 8, 5);
+        x.file(1, 5, 4);
+        Check.equal("jammed alone", x.frees(1), 1);
+        x.stop(0);
+        Check.equal("jammed and caught", x.frees(1), -1);
+        x.stop(0);
+        Check.equal("no stop any more", x.frees(1), 1);
+        CrankTheatre y = Stage.at(-9999);
+        Check.equal("at the bound", y.frees(1), -1);
+        y.file(2, 0, 9);
+        y.file(0, 0, 0);
+        Check.equal("why", y.why(1), 1);
+        Check.equal("jammed at the bound", y.frees(1), -1);
+        CrankTheatre z = Stage.at(-9998);
+        z.file(2, 1, 9);
+        z.file(0, 1, 0);
+        Check.equal("jammed one ahead of the bound", z.frees(1), 0);
     }
 
     private static void freesByTheSettingAt() {
